@@ -512,20 +512,19 @@ public final class QueueMiddles {
             int sinking = row.at(row.size() - 1);
             row.cutTo(row.size() - 1);
             int place = 0;
-            for (int below = lesserOf(1); below < row.size(); below = lesserOf(2 * below + 1)) {
+            int left = 1;
+            while (left < row.size()) {
+                int right = left + 1;
+                int below = right < row.size() && row.at(right) < row.at(left) ? right : left;
                 if (row.at(below) >= sinking) {
                     break;
                 }
                 row.put(place, row.at(below));
                 place = below;
+                left = 2 * below + 1;
             }
             row.put(place, sinking);
             return top;
-        }
-
-        private int lesserOf(int left) {
-            boolean rightIsLess = left + 1 < row.size() && row.at(left + 1) < row.at(left);
-            return rightIsLess ? left + 1 : left;
         }
     }
 
