@@ -30,33 +30,6 @@ public final class PromisesTest {
         Checks.finish();
     }
 
-    /** Marks as value:lowest-highest, one behind the other. */
-    private static String row(QueueMiddles x, int counter) {
-        StringBuilder row = new StringBuilder();
-        for (int i = 0; i < x.marks(counter); i++) {
-            row.append(i == 0 ? "" : " ").append(x.value(counter, i)).append(':');
-            row.append(x.lowestRank(counter, i)).append('-').append(x.highestRank(counter, i));
-        }
-        return row.toString();
-    }
-
-    /** Numbers 10, 20 .. 100 with the bound 200, thinned out, so that 10, 20, 60 and 100 stay. */
-    private static QueueMiddles thinnedTen() {
-        QueueMiddles x = new QueueMiddles();
-        x.begin(0, 200);
-        x.showRow(0, 10, 10, 10);
-        x.thinOut(0);
-        return x;
-    }
-
-    private static QueueMiddles full(int counter) {
-        QueueMiddles x = new QueueMiddles();
-        for (int i = 0; i < 6; i++) {
-            x.showRow(counter, i, 6, 100);
-        }
-        return x;
-    }
-
     private static void newObject() {
         QueueMiddles x = new QueueMiddles();
         for (int i = 0; i < 4; i++) {
@@ -70,12 +43,12 @@ public final class PromisesTest {
     }
 
     private static void begin() {
-        QueueMiddles x = thinnedTen();
+        QueueMiddles x = Scenes.thinnedTen();
         x.show(1, 7);
         Checks.due("P2 too low", ARGUMENT, () -> x.begin(0, 4));
         Checks.due("P2 too high", ARGUMENT, () -> x.begin(0, 201));
         Checks.due("P2 counter first", INDEX, () -> x.begin(4, 4));
-        Checks.due("P2 refused: marks stay", "10:1-1 20:2-2 60:6-6 100:10-10", () -> row(x, 0));
+        Checks.due("P2 refused: marks stay", "10:1-1 20:2-2 60:6-6 100:10-10", () -> Scenes.row(x, 0));
         Checks.due("P2 refused: bound stays", 200, () -> x.bound(0));
         Checks.due("P2 had ten", 10, () -> x.begin(0, 5));
         Checks.due("P2 least bound", 5, () -> x.bound(0));
@@ -88,7 +61,7 @@ public final class PromisesTest {
         Checks.due("P2 had none", 0, () -> x.begin(0, 200));
         Checks.due("P2 greatest bound", 200, () -> x.bound(0));
         x.show(0, -3);
-        Checks.due("P2 anew", "-3:1-1", () -> row(x, 0));
+        Checks.due("P2 anew", "-3:1-1", () -> Scenes.row(x, 0));
         Checks.due("P2 heaps anew", -3, () -> x.middleByHeaps(0));
         Checks.due("P2 tally anew", 1, () -> x.reallyUpTo(0, 9999));
     }
@@ -99,13 +72,13 @@ public final class PromisesTest {
         Checks.due("P3 second", 2, () -> x.show(3, -9999));
         Checks.due("P3 equal", 3, () -> x.show(3, -9999));
         Checks.due("P3 between", 4, () -> x.show(3, 0));
-        Checks.due("P3 row", "-9999:1-1 -9999:2-2 0:3-3 9999:4-4", () -> row(x, 3));
+        Checks.due("P3 row", "-9999:1-1 -9999:2-2 0:3-3 9999:4-4", () -> Scenes.row(x, 3));
         Checks.due("P3 too great", ARGUMENT, () -> x.show(3, 10000));
         Checks.due("P3 too small", ARGUMENT, () -> x.show(3, -10000));
         Checks.due("P3 any", ARGUMENT, () -> x.show(3, Integer.MIN_VALUE));
         Checks.due("P3 counter first", INDEX, () -> x.show(-1, 10000));
         Checks.due("P3 refused", 4, () -> x.count(3));
-        QueueMiddles y = full(1);
+        QueueMiddles y = Scenes.full(1);
         y.begin(1, 50);
         for (int i = 0; i < 6; i++) {
             y.showRow(1, i, 6, i < 5 ? 100 : 99);
@@ -120,13 +93,14 @@ public final class PromisesTest {
     }
 
     private static void showSpread() {
-        QueueMiddles x = thinnedTen();
+        QueueMiddles x = Scenes.thinnedTen();
         x.show(0, 55);
-        Checks.due("P3 spread", "10:1-1 20:2-2 55:3-6 60:7-7 100:11-11", () -> row(x, 0));
+        Checks.due("P3 spread", "10:1-1 20:2-2 55:3-6 60:7-7 100:11-11", () -> Scenes.row(x, 0));
         x.show(0, 55);
-        Checks.due("P3 behind the equal one", "10:1-1 20:2-2 55:3-6 55:4-7 60:8-8 100:12-12", () -> row(x, 0));
+        Checks.due("P3 behind the equal one", "10:1-1 20:2-2 55:3-6 55:4-7 60:8-8 100:12-12", () -> Scenes.row(x, 0));
         x.show(0, 54);
-        Checks.due("P3 spread of a spread", "10:1-1 20:2-2 54:3-6 55:4-7 55:5-8 60:9-9 100:13-13", () -> row(x, 0));
+        Checks.due("P3 spread of a spread", "10:1-1 20:2-2 54:3-6 55:4-7 55:5-8 60:9-9 100:13-13",
+                () -> Scenes.row(x, 0));
         x.show(0, 100);
         Checks.due("P3 behind all", 0, () -> x.highestRank(0, 7) - x.lowestRank(0, 7));
     }
@@ -138,9 +112,9 @@ public final class PromisesTest {
         Checks.due("P4 one more", 11, () -> x.showRow(0, 9999, 9999, 1));
         Checks.due("P4 last of one", 9999, () -> x.value(0, 10));
         Checks.due("P4 round", 4, () -> x.showRow(1, 9990, 5, 4));
-        Checks.due("P4 round, row", "-10000:1-1 -9995:2-2 9990:3-3 9995:4-4", () -> row(x, 1));
+        Checks.due("P4 round, row", "-10000:1-1 -9995:2-2 9990:3-3 9995:4-4", () -> Scenes.row(x, 1));
         Checks.due("P4 not yet round", 2, () -> x.showRow(2, 9990, 9, 2));
-        Checks.due("P4 not yet round, row", "9990:1-1 9999:2-2", () -> row(x, 2));
+        Checks.due("P4 not yet round, row", "9990:1-1 9999:2-2", () -> Scenes.row(x, 2));
         Checks.due("P4 step 0", 100, () -> x.showRow(3, -9999, 0, 100));
         Checks.due("P4 step 0, last", -9999, () -> x.value(3, 99));
         Checks.due("P4 longest", 200, () -> x.showRow(3, 9999, 9999, 100));
@@ -156,7 +130,7 @@ public final class PromisesTest {
     }
 
     private static void showRowRefused() {
-        QueueMiddles x = full(0);
+        QueueMiddles x = Scenes.full(0);
         Checks.due("P4 full", STATE, () -> x.showRow(0, 0, 0, 1));
         Checks.due("P4 argument before state", ARGUMENT, () -> x.showRow(0, 0, 0, 101));
         Checks.due("P4 counter before all", INDEX, () -> x.showRow(4, 10000, -1, 0));
@@ -183,32 +157,33 @@ public final class PromisesTest {
         x.begin(0, 100);
         x.showRow(0, 0, 0, 10);
         Checks.due("P5 four go", 4, () -> x.thinOut(0));
-        Checks.due("P5 row", "0:1-1 0:2-2 0:4-4 0:6-6 0:8-8 0:10-10", () -> row(x, 0));
+        Checks.due("P5 row", "0:1-1 0:2-2 0:4-4 0:6-6 0:8-8 0:10-10", () -> Scenes.row(x, 0));
         Checks.due("P5 no more go", 0, () -> x.thinOut(0));
         x.begin(1, 200);
         x.showRow(1, 1, 1, 5);
         Checks.due("P5 two go", 2, () -> x.thinOut(1));
-        Checks.due("P5 first and last stay", "1:1-1 3:3-3 5:5-5", () -> row(x, 1));
+        Checks.due("P5 first and last stay", "1:1-1 3:3-3 5:5-5", () -> Scenes.row(x, 1));
         Checks.due("P5 numbers stay", 5, () -> x.count(1));
         Checks.due("P5 one mark stays", 0, () -> {
             x.show(2, 1);
             return x.thinOut(2);
         });
-        QueueMiddles y = thinnedTen();
+        QueueMiddles y = Scenes.thinnedTen();
         y.show(0, 55);
         y.showRow(0, 55, 0, 2);
         Checks.due("P5 by the spread behind", 2, () -> y.thinOut(0));
-        Checks.due("P5 spreads stay", "10:1-1 20:2-2 55:4-7 60:9-9 100:13-13", () -> row(y, 0));
+        Checks.due("P5 spreads stay", "10:1-1 20:2-2 55:4-7 60:9-9 100:13-13", () -> Scenes.row(y, 0));
     }
 
     private static void pour() {
-        QueueMiddles x = thinnedTen();
+        QueueMiddles x = Scenes.thinnedTen();
         x.begin(1, 100);
         x.showRow(1, 15, 20, 5);
         Checks.due("P6 answer", 15, () -> x.pour(1, 0));
-        Checks.due("P6 row", "10:1-1 15:2-2 20:3-3 35:4-7 55:5-8 60:9-9 75:10-13 95:11-14 100:15-15", () -> row(x, 0));
+        Checks.due("P6 row", "10:1-1 15:2-2 20:3-3 35:4-7 55:5-8 60:9-9 75:10-13 95:11-14 100:15-15",
+                () -> Scenes.row(x, 0));
         Checks.due("P6 bound", 200, () -> x.bound(0));
-        Checks.due("P6 from stays", "15:1-1 35:2-2 55:3-3 75:4-4 95:5-5", () -> row(x, 1));
+        Checks.due("P6 from stays", "15:1-1 35:2-2 55:3-3 75:4-4 95:5-5", () -> Scenes.row(x, 1));
         Checks.due("P6 from: bound stays", 100, () -> x.bound(1));
         Checks.due("P6 from: count stays", 5, () -> x.count(1));
         Checks.due("P6 numbers of both", 9, () -> x.reallyUpTo(0, 60));
@@ -228,9 +203,9 @@ public final class PromisesTest {
         x.show(1, 3);
         x.pour(0, 2);
         x.pour(1, 2);
-        Checks.due("P6 own ahead", "1:1-1 3:3-3 3:4-5 5:6-6", () -> row(x, 2));
+        Checks.due("P6 own ahead", "1:1-1 3:3-3 3:4-5 5:6-6", () -> Scenes.row(x, 2));
         x.pour(0, 1);
-        Checks.due("P6 own ahead, the other way", "1:1-1 3:2-3 3:4-4 5:6-6", () -> row(x, 1));
+        Checks.due("P6 own ahead, the other way", "1:1-1 3:2-3 3:4-4 5:6-6", () -> Scenes.row(x, 1));
     }
 
     private static void pourOfEmptyOnes() {
@@ -240,13 +215,13 @@ public final class PromisesTest {
         x.showRow(1, 1, 1, 4);
         Checks.due("P6 from empty", 4, () -> x.pour(0, 1));
         Checks.due("P6 from empty, bound", 200, () -> x.bound(1));
-        Checks.due("P6 from empty, row", "1:1-1 2:2-2 3:3-3 4:4-4", () -> row(x, 1));
+        Checks.due("P6 from empty, row", "1:1-1 2:2-2 3:3-3 4:4-4", () -> Scenes.row(x, 1));
         Checks.due("P6 into empty", 4, () -> x.pour(1, 3));
-        Checks.due("P6 into empty, row", "1:1-1 2:2-2 3:3-3 4:4-4", () -> row(x, 3));
+        Checks.due("P6 into empty, row", "1:1-1 2:2-2 3:3-3 4:4-4", () -> Scenes.row(x, 3));
     }
 
     private static void pourRefused() {
-        QueueMiddles x = full(3);
+        QueueMiddles x = Scenes.full(3);
         x.begin(0, 200);
         x.show(0, 1);
         Checks.due("P6 no room", STATE, () -> x.pour(0, 3));
@@ -262,7 +237,7 @@ public final class PromisesTest {
     }
 
     private static void countBoundAllowanceMarks() {
-        QueueMiddles x = thinnedTen();
+        QueueMiddles x = Scenes.thinnedTen();
         Checks.due("P7 count", 10, () -> x.count(0));
         Checks.due("P8 bound", 200, () -> x.bound(0));
         Checks.due("P9 allowance", 4, () -> x.allowance(0));
@@ -273,11 +248,11 @@ public final class PromisesTest {
         x.show(1, 0);
         Checks.due("P9 just one", 1, () -> x.allowance(1));
         Checks.due("P7 hundred", 100, () -> x.count(1));
-        Checks.due("P9 full", 60, () -> full(2).allowance(2));
+        Checks.due("P9 full", 60, () -> Scenes.full(2).allowance(2));
     }
 
     private static void valueAndRanks() {
-        QueueMiddles x = thinnedTen();
+        QueueMiddles x = Scenes.thinnedTen();
         x.show(0, 55);
         Checks.due("P11 first", 10, () -> x.value(0, 0));
         Checks.due("P11 last", 100, () -> x.value(0, 4));
@@ -298,7 +273,7 @@ public final class PromisesTest {
         Checks.due("P14 none", 0, () -> x.widest(0));
         x.show(0, 1);
         Checks.due("P14 one", 1, () -> x.widest(0));
-        QueueMiddles y = thinnedTen();
+        QueueMiddles y = Scenes.thinnedTen();
         Checks.due("P14 gaps", 4, () -> y.widest(0));
         y.begin(1, 100);
         y.showRow(1, 15, 20, 5);
@@ -309,12 +284,12 @@ public final class PromisesTest {
         y.thinOut(2);
         y.pour(2, 0);
         Checks.due("P14 gap and spread", "5:1-1 10:2-3 15:3-4 20:4-5 35:5-9 55:6-10 60:10-11 75:11-15 95:12-16 "
-                + "100:16-17 195:18-18 385:20-20", () -> row(y, 0));
+                + "100:16-17 195:18-18 385:20-20", () -> Scenes.row(y, 0));
         Checks.due("P14 widest", 5, () -> y.widest(0));
     }
 
     private static void askOffReallyOff() {
-        QueueMiddles x = thinnedTen();
+        QueueMiddles x = Scenes.thinnedTen();
         int[][] due = {
             {0, 10, 0, 0}, {1, 10, 0, 0}, {100, 10, 0, 0}, {101, 20, 0, 0}, {200, 20, 0, 0}, {201, 20, 1, 1},
             {400, 20, 2, 2}, {401, 60, 1, 1}, {500, 60, 1, 1}, {600, 60, 0, 0}, {700, 60, 1, 1}, {800, 60, 2, 2},
@@ -344,7 +319,7 @@ public final class PromisesTest {
     }
 
     private static void askRefused() {
-        QueueMiddles x = thinnedTen();
+        QueueMiddles x = Scenes.thinnedTen();
         for (int share : new int[] {-1, 1001, Integer.MIN_VALUE, Integer.MAX_VALUE}) {
             for (int counter = 0; counter < 2; counter++) {
                 int c = counter;
@@ -362,7 +337,7 @@ public final class PromisesTest {
     }
 
     private static void upTo() {
-        QueueMiddles x = thinnedTen();
+        QueueMiddles x = Scenes.thinnedTen();
         x.show(0, 55);
         int[][] due = {
             {Integer.MIN_VALUE, 0, 0, 0}, {9, 0, 0, 0}, {10, 1, 1, 1}, {20, 2, 5, 2}, {54, 2, 5, 5}, {55, 3, 6, 6},
@@ -406,7 +381,7 @@ public final class PromisesTest {
         x.showRow(2, 9999, 1, 2);
         x.show(2, -9999);
         bothMiddles("10 with four of -10000", x, 2, -9999);
-        bothMiddles("full", full(3), 3, 299);
+        bothMiddles("full", Scenes.full(3), 3, 299);
     }
 
     private static void middlesOfManyOrders() {
