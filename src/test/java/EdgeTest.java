@@ -53,6 +53,7 @@ public final class EdgeTest {
         newObject();
         hadNumbers();
         beginsAnew();
+        beginsAnewAfterFull();
         marksAfterShow();
         rowGoesRound();
         rowHoldsLeastNumber();
@@ -354,6 +355,11 @@ public final class EdgeTest {
         for (int[] d : due) {
             Checks.due(sentence + "600 at " + d[0], d[1] - 1, () -> x.ask(0, d[0]));
         }
+        QueueMiddles z = shown(50, 1, 2, 3, 4, 5, 6, 7, 8, 9, 10, 11);
+        int[][] dueOfEleven = {{90, 1}, {91, 2}, {181, 2}, {182, 3}, {545, 6}, {546, 7}, {909, 10}, {910, 11}};
+        for (int[] d : dueOfEleven) {
+            Checks.due(sentence + "eleven at " + d[0], d[1], () -> z.ask(0, d[0]));
+        }
         QueueMiddles y = shown(50, 42);
         for (int share : new int[] {0, 1, 500, 999, 1000}) {
             Checks.due(sentence + "one at " + share, 42, () -> y.ask(0, share));
@@ -429,6 +435,31 @@ public final class EdgeTest {
         QueueMiddles x = mixed();
         x.begin(2, 50);
         Checks.due(sentence + "the others stay", "11 0 590", () -> x.count(0) + " " + x.count(1) + " " + x.count(3));
+    }
+
+    /** Neither old spreads nor old numbers come back, although no room was left beside them. */
+    private void beginsAnewAfterFull() {
+        String sentence = sentences.under("Promise 2", "Lets a counter begin anew.");
+        QueueMiddles x = Scenes.thinnedTen();
+        for (int i = 0; i < 5; i++) {
+            x.showRow(0, 55, 0, 100);
+        }
+        x.showRow(0, 55, 0, 90);
+        Checks.due(sentence + "full of spreads", 600, () -> x.begin(0, 200));
+        x.showRow(0, 10, 10, 10);
+        Checks.due(sentence + "no spreads", 1, () -> x.widest(0));
+        QueueMiddles y = Scenes.full(0);
+        y.begin(0, 50);
+        y.showRow(0, 5, 0, 3);
+        y.show(0, 3);
+        Checks.due(sentence + "up to the lesser one", 1, () -> y.reallyUpTo(0, 3));
+        Checks.due(sentence + "up to the greater one", 4, () -> y.reallyUpTo(0, 5));
+        Checks.due(sentence + "up to an old one", 4, () -> y.reallyUpTo(0, 599));
+        bothMiddles(sentence, 5, y, 0);
+        y.begin(0, 50);
+        Scenes.fill(y, 0);
+        Checks.due(sentence + "full again, up to the last but one", 599, () -> y.reallyUpTo(0, 598));
+        Checks.due(sentence + "full again, up to the last one", 600, () -> y.reallyUpTo(0, 599));
     }
 
     private void marksAfterShow() {
@@ -680,6 +711,9 @@ public final class EdgeTest {
         Checks.due(sentence + "new", 0.0, () -> new QueueMiddles().part(3));
         String divided = sentences.under("Promise 23",
                 "Returns the number of marks, as a double, divided by that of numbers");
+        x.begin(1, 50);
+        x.show(1, 0);
+        Checks.due(divided + "1 of 1", 1.0, () -> x.part(1));
         Checks.due(divided + "5 of 11", 5.0 / 11.0, () -> x.part(0));
         Checks.due(divided + "76 of 600", 76.0 / 600.0, () -> x.part(2));
         Checks.due(divided + "all", 1.0, () -> x.part(3));
