@@ -302,9 +302,9 @@ public final class QueueMiddles {
 
         int answering(int rank) {
             int best = 0;
-            int leastOff = Integer.MAX_VALUE;
-            int lowest = 0;
-            for (int i = 0; i < length(); i++) {
+            int leastOff = offBy(0, rank);
+            int lowest = rankFrom(0);
+            for (int i = 1; i < length(); i++) {
                 lowest += gaps.at(i);
                 int offHere = Math.max(rank - lowest, lowest + spreads.at(i) - rank);
                 if (offHere < leastOff) {
